@@ -328,14 +328,12 @@ public final class SongFields {
 
   public int lost(int singer) throws NoSuchElementException {
     needSinger(singer);
-    int others = (1 << valley.singers) - 1 & ~(1 << singer);
+    // Without that singer the others have but each other to learn from: together they would know
+    // then what they know now.
     course.begin(valley, story.row);
+    int without = course.knownByOthers(singer);
     course.go(MOST_HOURS);
-    int with = course.knownBySome(others);
-    course.begin(valley, story.row);
-    course.mute = singer;
-    course.go(MOST_HOURS);
-    return with & ~course.knownBySome(others);
+    return course.knownByOthers(singer) & ~without;
   }
 
   public int needed(int singer, int field, int hours) throws NoSuchElementException, IllegalArgumentException {
@@ -817,7 +815,6 @@ public final class SongFields {
     private int nots;
     private boolean partIsDue;
     private boolean notMayStand;
-    private boolean justOpened;
 
     Phrase(Tokens source) {
       tokens = source;
@@ -844,7 +841,6 @@ public final class SongFields {
       partIsDue = true;
       notMayStand = withNot;
       nots = 0;
-      justOpened = false;
     }
 
     private int readPart(Rule rule, boolean ofSinger) {
@@ -852,14 +848,13 @@ public final class SongFields {
       if (kind != Tokens.NUMBER && kind != Tokens.WORD && kind != '(') {
         return 1;
       }
-      if (justOpened && open >= MOST_AROUND || tokens.isTooLong()) {
+      if (open >= MOST_AROUND || tokens.isTooLong()) {
         return 2;
       }
       if (kind == '(') {
         hold(OPEN);
         open++;
         expectPart(true);
-        justOpened = true;
         return GOES_ON;
       }
       if (notMayStand && tokens.is("not")) {
@@ -879,7 +874,6 @@ public final class SongFields {
         return 2;
       }
       nots++;
-      justOpened = false;
       hold(Rule.NOT);
       return GOES_ON;
     }
@@ -1114,7 +1108,6 @@ public final class SongFields {
       singers = 0;
       Arrays.fill(beside, 0);
       Arrays.fill(steps, NO_WAY);
-      Arrays.fill(known, 0);
       Arrays.fill(owner, NONE);
       sings.begin(0);
       fines.begin(0);
@@ -1245,8 +1238,6 @@ public final class SongFields {
     final int[] sung = new int[MOST_SINGERS];
     final int[] trespassesBy = new int[MOST_SINGERS];
     private final int[] trespassesOn = new int[MOST_FIELDS];
-    /** Who is silent whatever the rule says. */
-    int mute;
     private final int[] values = new int[5];
 
     Course(Valley first) {
@@ -1256,10 +1247,8 @@ public final class SongFields {
     void begin(Valley now, int[] from) {
       valley = now;
       System.arraycopy(from, 0, row, 0, ROW);
-      Arrays.fill(sung, NONE);
       Arrays.fill(trespassesBy, 0);
       Arrays.fill(trespassesOn, 0);
-      mute = NONE;
       findPlaces();
     }
 
@@ -1278,7 +1267,7 @@ public final class SongFields {
     void goHour() {
       findPlaces();
       for (int s = 0; s < valley.singers; s++) {
-        sung[s] = s == mute ? NONE : tuneOf(s);
+        sung[s] = tuneOf(s);
         if (sung[s] != NONE) {
           letSing(s, sung[s]);
         }
@@ -1371,11 +1360,11 @@ public final class SongFields {
       return true;
     }
 
-    /** Tunes that one of these singers (bits) knows. */
-    int knownBySome(int who) {
+    /** Tunes that somebody else knows. */
+    int knownByOthers(int singer) {
       int bits = 0;
       for (int s = 0; s < valley.singers; s++) {
-        if ((who >> s & 1) != 0) {
+        if (s != singer) {
           bits |= row[KNOWN + s];
         }
       }

@@ -77,6 +77,9 @@ public final class ActTest {
     long6.hours(1);
     Checks.is("120 steps", long6.far(0, 6), 120);
     Checks.is("are 99", long6.singer(0, 3), -99);
+    SongFields value = Checks.valley("field 5 1 2;field 9 3 4;" + rule + "fines far-50;");
+    value.hours(1);
+    Checks.is("no way in a rule", value.singer(0, 3), -49);
     // Kept to 0 to 99.
     SongFields below = Checks.valley("field 5 1 2;field 9 3 4;" + rule + "fines 0-5;");
     below.hours(1);
@@ -278,6 +281,8 @@ public final class ActTest {
       Checks.is("known", x.singer(1, 2), 2);
       Checks.is("owner", x.field(0, 2), -1);
       Checks.is("way", x.way(0, 0), 0);
+      Checks.is("what is heard can't be", x.otherwise(2), 0);
+      Checks.is("but by singer 0 in field 1", x.otherwise(0), 1);
       Checks.is("the acts are undone", x.undo(), 1);
       Checks.is("earth", x.earth(0, 1), 2);
       Checks.is("all", x.undo(), 0);
@@ -290,6 +295,21 @@ public final class ActTest {
     x.restore();
     Checks.is("in place of the other", x.count(3), 9);
     Checks.is("its acts", x.count(5), 1);
+    // What is heard is as it was, each part of it.
+    SongFields heard = Checks.valley(Checks.LINE_OF_THREE);
+    heard.hear(1, 2, 1);
+    heard.hear(0, 1, 0);
+    heard.image();
+    Checks.is("all but 0 elsewhere in the first place", heard.otherwise(0), 6);
+    int[][] others = {{0, 2, 1}, {1, 3, 1}, {1, 2, 0}, {2, 3, -1}};
+    for (int[] other : others) {
+      heard.forget();
+      heard.hear(other[0], other[1], other[2]);
+      heard.hear(1, 1, -1);
+      heard.restore();
+      Checks.is("so again", heard.otherwise(2), 1);
+      Checks.is("as many steps", heard.otherwise(0), 6);
+    }
     // An image with forty acts whose slots went round.
     SongFields y = Checks.valley(Checks.LINE_OF_THREE);
     for (int i = 0; i < 55; i++) {

@@ -30,6 +30,14 @@ public final class AheadTest {
     for (int k = 1; k <= 6; k++) {
       Checks.is("by the hour " + k, y.sung(0, k), due[k - 1]);
     }
+    // What the rule tells of the second singer is its own: what it knows, its purse, its number.
+    String second = "field 1 1 1;field 1 2 2;field 1 3 3;singer 0;singer 1;owns 0 0;knows 1 0;knows 1 2;fines 1;";
+    Checks.is("known", Checks.valley(second + "sings known-1;").sung(1, 1), 2);
+    Checks.is("of the first", Checks.valley(second + "sings known-1;").sung(0, 1), 0);
+    Checks.is("no purse yet", Checks.valley(second + "sings 0-purse*2;").sung(1, 1), 0);
+    Checks.is("a purse below 0", Checks.valley(second + "sings 0-purse*2;").sung(1, 2), 2);
+    Checks.is("that is not less by nobody's", Checks.valley(second + "sings 0-purse*2;").purse(1, 5), -1);
+    Checks.is("the owner's", Checks.valley(second + "sings 0-purse*2;").purse(0, 5), 1);
   }
 
   private static void learnt() {
@@ -81,6 +89,8 @@ public final class AheadTest {
     Checks.is("by 0", y.trespasses(0, 4, 0), 4);
     Checks.is("by 1", y.trespasses(1, 4, 0), 4);
     Checks.is("on 2", y.trespasses(2, 4, 1), 8);
+    SongFields first = Checks.valley("field 1 1 1;field 1 2 2;singer 1;singer 1;knows 0 0;owns 1 0;sings 0;");
+    Checks.is("on field 0", first.trespasses(1, 4, 1), 4);
   }
 
   private static void allKnow() {
@@ -106,6 +116,13 @@ public final class AheadTest {
     String late = "field 1 1 1;field 1 2 2;singer 0;singer 0;knows 0 1;sings hour=";
     Checks.is("the 30th", Checks.valley(late + "29;").lost(0), 2);
     Checks.is("the 31st", Checks.valley(late + "30;").lost(0), 0);
+    // What the first and the last one know counts as well as what is between.
+    String three = "field 1 1 1;field 1 2 2;field 1 3 3;singer 0;singer 0;singer 0;knows 0 1;knows 2 2;sings hour;";
+    Checks.is("of the middle one nothing", Checks.valley(three).lost(1), 0);
+    Checks.is("of the first", Checks.valley(three).lost(0), 2);
+    Checks.is("of the last", Checks.valley(three).lost(2), 4);
+    Checks.is("which the first knows", Checks.valley(three.replace("knows 0 1", "knows 0 2")).lost(2), 0);
+    Checks.is("of two", Checks.valley(three.replace("knows 0 1", "knows 2 1")).lost(2), 6);
     // What a silent one hears is not the others' knowledge.
     Checks.is("both know", Checks.valley("field 1 1 1;field 1 2 2;singer 0;singer 0;singer 0;knows 0 1;knows 1 1;sings 1;").lost(0), 0);
   }
@@ -114,6 +131,7 @@ public final class AheadTest {
     SongFields x = Checks.valley(Checks.TWO_WITH_RULES);
     Checks.is("4", x.needed(0, 1, 4), 4);
     Checks.is("60", x.needed(0, 1, 60), 60);
+    Checks.is("1", x.needed(0, 1, 1), 1);
     x.load(0, 1, 9);
     Checks.is("in place of what there is", x.needed(0, 1, 4), 4);
     Checks.is("not another tune", x.needed(0, 0, 4), 0);
@@ -122,6 +140,11 @@ public final class AheadTest {
     Checks.is("nobody's", x.needed(0, 1, 4), 0);
     x.sell(1, 0);
     Checks.is("one's own", x.needed(0, 1, 4), 0);
+    SongFields second = Checks.valley("field 1 1 1;field 1 2 2;singer 1;singer 0;knows 1 1;owns 0 1;sings 1;");
+    Checks.is("of the second", second.needed(1, 1, 7), 7);
+    second.load(1, 1, 5);
+    Checks.is("what it has counts for nothing", second.needed(1, 1, 7), 7);
+    Checks.is("what it has is used", second.trespasses(1, 7, 0), 2);
     Checks.illegal("0", () -> x.needed(0, 1, 0));
     Checks.illegal("61", () -> x.needed(0, 1, 61));
     Checks.noSuch("no singer ahead", () -> x.needed(2, 1, 61));

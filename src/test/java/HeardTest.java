@@ -127,6 +127,15 @@ public final class HeardTest {
     x.hear(2, 1, 2);
     Checks.is("all alike", x.listen(0), 0);
     Checks.is("one", x.listen(1), 1);
+    SongFields one = Checks.valley("field 1 1 1;field 1 2 2;singer 0;");
+    Checks.is("by one step", one.listen(0), 0);
+    Checks.is("one", one.listen(1), 1);
+    // Only the next hour counts: the second place makes nothing unlike in it.
+    SongFields next = Checks.valley("field 1 1 1;field 1 2 2;singer 0 0;singer 1;knows 0 1;");
+    next.hear(0, 1, 0);
+    next.hear(1, 1, 1);
+    Checks.is("the second place, or where 1 is heard by both", next.otherwise(0), 1);
+    Checks.is("alike", next.listen(1), 1);
     // Of two in one field the least tune counts, and none is one of the unlike.
     SongFields y = Checks.valley(
         "field 1 1 1;field 1 2 2;field 1 3 3;field 1 4 4;singer 3;singer 2;knows 0 2;knows 1 3;sings 3-singer;");

@@ -48,6 +48,10 @@ public final class LookTest {
     Checks.is("thirds of 1", y.field(1, 4), 16);
     Checks.is("thirds of 3", y.field(3, 4), 0);
     Checks.is("thirds of 5", y.field(5, 4), 1);
+    SongFields z = Checks.valley("field 1 5 3;field 1 4 1;field 1 3 2;field 1 3 1;path 0 3 1;path 1 3 1;path 2 3 1;path 2 0 1;");
+    Checks.is("each note counts", z.field(0, 4), 8);
+    Checks.is("beside 3", z.field(3, 5), 7);
+    Checks.is("beside 0", z.field(0, 5), 12);
   }
 
   private static void notes() {
@@ -59,6 +63,8 @@ public final class LookTest {
     Checks.noSuch("note -1", () -> x.note(0, -1));
     Checks.noSuch("note 2 of two", () -> x.note(1, 2));
     Checks.noSuch("note of no field", () -> x.note(2, 0));
+    Checks.noSuch("note of field -1", () -> x.note(-1, 0));
+    Checks.noSuch("note of field 8", () -> x.note(8, 0));
   }
 
   private static void singers() {
@@ -113,6 +119,8 @@ public final class LookTest {
     Checks.noSuch("way -1", () -> x.way(0, -1));
     Checks.noSuch("way 1 of one", () -> x.way(1, 1));
     Checks.noSuch("no singer", () -> x.way(2, 0));
+    Checks.noSuch("singer -1", () -> x.way(-1, 0));
+    Checks.noSuch("singer 6", () -> x.way(6, 0));
   }
 
   private static void barrows() {
@@ -122,6 +130,19 @@ public final class LookTest {
     Checks.is("7", x.earth(2, 1), 7);
     Checks.is("not another's", x.earth(1, 1), 0);
     Checks.is("not of another", x.earth(2, 2), 0);
+    SongFields full = Checks.valley("field 1 1 1;".repeat(8) + "singer 7 7 7 7 7 7;".repeat(6));
+    for (int i = 0; i < 48; i++) {
+      full.load(i / 8, i % 8, 1 + i % 9);
+    }
+    for (int i = 0; i < 48; i++) {
+      Checks.is("each its own " + i, full.earth(i / 8, i % 8), 1 + i % 9);
+    }
+    for (int s = 0; s < 6; s++) {
+      Checks.is("way", full.way(s, 5), 7);
+      Checks.is("purse", full.singer(s, 3), 0);
+      Checks.is("known", full.singer(s, 2), 128);
+    }
+    Checks.is("nobody's", full.field(7, 2), -1);
     Checks.noSuch("no singer", () -> x.earth(3, 0));
     Checks.noSuch("no field", () -> x.earth(0, 3));
     Checks.noSuch("singer below", () -> x.earth(-1, 0));

@@ -53,6 +53,9 @@ public final class PlayTest {
     Checks.illegal("both are one", () -> x.game(0, 0, 0, 0));
     Checks.illegal("one doesn't know", () -> x.game(0, 1, 1, 0));
     Checks.illegal("the other doesn't", () -> x.game(0, 1, 2, 1));
+    Checks.illegal("singer 2 doesn't", () -> x.game(0, 2, 1, 1));
+    Checks.illegal("singer 2 doesn't", () -> x.game(2, 0, 1, 1));
+    Checks.is("2 does", x.game(2, 0, 0, 0), 1);
     Checks.noSuch("no singer", () -> x.game(3, 0, 0, 0));
     Checks.noSuch("no other", () -> x.game(0, 3, 0, 0));
     Checks.noSuch("no field", () -> x.game(0, 0, 3, 0));
@@ -68,7 +71,8 @@ public final class PlayTest {
     // Apart and silent, so that one draw can be told: who is drawn learns what is drawn.
     SongFields apart = Checks.valley("field 1 1 1;field 1 2 2;field 1 3 3;singer 0;singer 1;sings singer+1;");
     int[] seeds = {0, 1, 5, 77, -1, -123456789, Integer.MIN_VALUE, Integer.MAX_VALUE};
-    for (int seed : seeds) {
+    for (int i = 0; i < 300; i++) {
+      int seed = i < seeds.length ? seeds[i] : i * 7654321;
       int one = seed * 1103515245 + 12345;
       int two = one * 1103515245 + 12345;
       int tune = (one >>> 16 & 0x7fff) % 3;
@@ -88,6 +92,29 @@ public final class PlayTest {
     Checks.is("in these hours", all.larks(1, 2, 1), 4);
     Checks.is("from now on", all.larks(1, 2, 2), 7 * 12);
     Checks.is("60", all.larks(1, 60, 1), 120);
+    // A lark sings where that singer is in its own hour; who is drawn there alone learns it.
+    SongFields walks = Checks.valley("field 1 1 1;field 1 2 2;field 1 3 3;singer 0 1;singer 0 2;sings 2-singer;");
+    for (int seed = 0; seed < 60; seed++) {
+      int[] known = {1, 1};
+      int s = seed;
+      for (int h = 0; h < 2; h++) {
+        s = s * 1103515245 + 12345;
+        int tune = 1 << (s >>> 16 & 0x7fff) % 3;
+        s = s * 1103515245 + 12345;
+        int who = (s >>> 16 & 0x7fff) % 2;
+        known[who] |= tune;
+        known[1 - who] |= h == 0 ? tune : 0;
+        // Then each sings its own rule's tune, if it knows it: in the first hour both hear.
+        if (h == 0 && (known[0] >> 2 & 1) != 0) known[1] |= 4;
+        if (h == 0 && (known[1] >> 1 & 1) != 0) known[0] |= 2;
+      }
+      Checks.is("two hours by " + seed, walks.larks(seed, 2, 0), Integer.bitCount(known[0]) + Integer.bitCount(known[1]));
+    }
+    SongFields one = Checks.valley("field 1 1 1;field 1 2 2;singer 0;");
+    Checks.is("one alone learns all", one.larks(1, 60, 0), 2);
+    SongFields second = Checks.valley("field 1 1 1;field 1 2 2;singer 0;singer 1;singer 0;knows 0 1;owns 1 1;sings 1;fines 1;");
+    Checks.is("the second's purse", second.larks(1, 0, 2), 0);
+    Checks.is("behind 5 hours", second.larks(1, 5, 2), 10);
     SongFields none = Checks.valley("field 1 1 1;");
     Checks.is("without singers", none.larks(1, 60, 0), 0);
     Checks.is("without singers", none.larks(1, 60, 1), 0);

@@ -42,6 +42,9 @@ public final class SurveyTest {
     Checks.is("itself", x.far(2, 2), 0);
     Checks.is("none", x.far(0, 4), -1);
     Checks.is("itself alone", x.far(4, 4), 0);
+    SongFields star = Checks.valley("field 1 1 1;".repeat(4) + "path 1 0 2;path 2 0 3;path 3 0 4;path 1 2 19;");
+    Checks.is("by 0", star.far(1, 2), 5);
+    Checks.is("by 0", star.far(3, 2), 7);
     Checks.noSuch("no field", () -> x.far(5, 0));
     Checks.noSuch("no other", () -> x.far(0, -1));
   }

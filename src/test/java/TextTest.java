@@ -7,6 +7,7 @@ public final class TextTest {
     tape();
     valleys();
     whatStaysAndGoes();
+    oneBehindAnother();
     tokens();
     lines();
     tooMuch();
@@ -118,6 +119,32 @@ public final class TextTest {
     Checks.is("sings the next", y.singer(0, 5), 1);
   }
 
+  /** Nothing of a text with a fault is left for the next one, and no byte behind its end counts. */
+  private static void oneBehindAnother() {
+    SongFields x = new SongFields();
+    Checks.is("a test that waits", Checks.tell(x, "sings 1<@;"), 1);
+    Checks.is("is gone", Checks.tell(x, "sings 1<2;"), 0);
+    Checks.is("a parenthesis that is open", Checks.tell(x, "sings (@;"), 1);
+    Checks.is("is gone", Checks.tell(x, "sings 1);"), 1);
+    Checks.is("its place", x.fault(), 7);
+    Checks.is("six of them", Checks.tell(x, "sings ((((((1;"), 2);
+    Checks.is("are gone", Checks.tell(x, "sings (1);"), 0);
+    Checks.is("fields of a fault", Checks.tell(x, "field 1 1 1;field 1 1 1;path 0 1 1;singer 0;owns 0 0;fines 1;@"), 1);
+    Checks.is("are gone", Checks.tell(x, "field 1 1 1;field 1 1 1;path 0 1 1;singer 0;owns 0 0;fines 1;"), 0);
+    Checks.feed(x, "field 1 1 12;");
+    Checks.is("cut in a number", x.valley(11), 1);
+    Checks.is("at the text's length", x.fault(), 11);
+    Checks.feed(x, "field 1 1 12;");
+    Checks.is("cut ahead of the end", x.valley(10), 1);
+    Checks.is("at the text's length", x.fault(), 10);
+    Checks.feed(x, "sings hour;");
+    Checks.is("cut in a word", x.valley(8), 3);
+    Checks.is("at the word", x.fault(), 6);
+    Checks.feed(x, "sings hour;");
+    Checks.is("cut behind it", x.valley(10), 1);
+    Checks.is("at the text's length", x.fault(), 10);
+  }
+
   private static void fault(String text, int kind, int place) {
     SongFields x = new SongFields();
     Checks.is("valley of " + text, Checks.tell(x, text), kind);
@@ -148,6 +175,8 @@ public final class TextTest {
   }
 
   private static void lines() {
+    fault("gield 1 1 1;", 1, 0);
+    fault("fiele 1 1 1;", 1, 0);
     fault("field 1 1;", 1, 9);
     fault("field ;", 1, 6);
     fault("field x 1 1;", 1, 6);
@@ -254,6 +283,11 @@ public final class TextTest {
   private static void notToldAhead() {
     fault("sings far;", 3, 6);
     fault("sings x;", 3, 6);
+    fault("sings a;", 3, 6);
+    fault("sings z;", 3, 6);
+    fault("sings `;", 1, 6);
+    fault("sings {;", 1, 6);
+    fault("sings :;", 1, 6);
     fault("sings or;", 3, 6);
     fault("sings 1+not 1;", 3, 8);
     fault("sings 1<not 1;", 3, 8);
@@ -316,6 +350,13 @@ public final class TextTest {
     sings("2=2", 1);
     sings("2=3", 0);
     sings("5 and 3", 1);
+    sings("1 and 3", 1);
+    sings("3 and 1", 1);
+    sings("2 or 0", 1);
+    sings("(2 or 0)+5", 6);
+    sings("(2 and 3)+5", 6);
+    sings("(not 0)+5", 6);
+    sings("5-(2<3)", 4);
     sings("5 and 0", 0);
     sings("0 or 3", 1);
     sings("0 or 0", 0);
