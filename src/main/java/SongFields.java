@@ -808,7 +808,7 @@ public final class SongFields {
     private static final int OPEN = 0;
 
     private final Tokens tokens;
-    /** At each of seven depths: or, and, six nots, a test, a sum, a product, a parenthesis. */
+    /** At each of six depths: or, and, six nots, a test, a sum, a product, a parenthesis. */
     private final int[] waiting = new int[96];
     private int waits;
     private int open;
