@@ -1,9 +1,15 @@
+import java.io.IOException;
+import java.nio.file.Files;
+import java.nio.file.Path;
 import java.util.function.LongSupplier;
 
 /** What the tests by hand share: counting, telling what is wrong, and telling a valley. */
 final class Checks {
+  private static final Path DOCUMENT = Path.of("../shared/DOC.md");
   private static int passed = 0;
   private static int failed = 0;
+  private static String document = "";
+  private static String sentence = "";
 
   static final String LINE_OF_THREE =
       "field 10 0 2 4;field 20 8 0 2;field 30 5 5 1 3;path 0 1 3;path 1 2 4;"
@@ -15,12 +21,38 @@ final class Checks {
 
   private Checks() {}
 
+  /** What comes tests these words of the document: a failure names them, and they must stand there. */
+  static void sentence(String words) {
+    if (document.isEmpty()) {
+      try {
+        document = Files.readString(DOCUMENT).replaceAll("\\s+", " ");
+      } catch (IOException e) {
+        document = "no document";
+      }
+    }
+    sentence = "";
+    is("the document says: " + words, document.contains(words), true);
+    sentence = " [" + words + "]";
+  }
+
+  private static void wrong(String text) {
+    failed++;
+    System.out.println(text + sentence);
+  }
+
   static void is(String what, long got, long want) {
     if (got == want) {
       passed++;
     } else {
-      failed++;
-      System.out.println(what + " answered " + got + ", due is " + want);
+      wrong(what + " answered " + got + ", due is " + want);
+    }
+  }
+
+  static void is(String what, String got, String want) {
+    if (got.equals(want)) {
+      passed++;
+    } else {
+      wrong(what + " answered " + got + ", due is " + want);
     }
   }
 
@@ -39,8 +71,7 @@ final class Checks {
       }
       got = "threw " + e.getClass().getSimpleName();
     }
-    failed++;
-    System.out.println(what + " " + got + ", due is " + due.getSimpleName());
+    wrong(what + " " + got + ", due is " + due.getSimpleName());
   }
 
   static void noSuch(String what, LongSupplier call) {
@@ -73,8 +104,17 @@ final class Checks {
     return x;
   }
 
-  static String times(int many, String text) {
-    return text.repeat(many);
+  /** A text on a new object: its fault and the place (kind 0: none). */
+  static void fault(String text, int kind, int place) {
+    SongFields x = new SongFields();
+    is("valley of " + text, tell(x, text), kind);
+    is("fault of " + text, x.fault(), kind == 0 ? -1 : place);
+    is("refused texts by " + text, x.count(8), kind == 0 ? 0 : 1);
+  }
+
+  /** No fault in a text. */
+  static void stands(String text) {
+    fault(text, 0, -1);
   }
 
   static void end(String name) {

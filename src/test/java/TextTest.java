@@ -146,10 +146,7 @@ public final class TextTest {
   }
 
   private static void fault(String text, int kind, int place) {
-    SongFields x = new SongFields();
-    Checks.is("valley of " + text, Checks.tell(x, text), kind);
-    Checks.is("fault of " + text, x.fault(), kind == 0 ? -1 : place);
-    Checks.is("refused texts by " + text, x.count(8), kind == 0 ? 0 : 1);
+    Checks.fault(text, kind, place);
   }
 
   private static void tokens() {
