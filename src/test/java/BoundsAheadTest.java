@@ -132,6 +132,13 @@ public final class BoundsAheadTest {
 
   private static void onesNow() {
     Checks.sentence("by a SINGER (what 0), on FIELDS that are one's now (1).");
+    // On the first field and on the last, by the first singer and by the last.
+    String ends = FIELD.repeat(8) + "singer 1;" + "singer 2;".repeat(4) + "singer 6;knows 0 7;knows 5 0;owns 0 0;owns 5 7;sings (singer=0)*7;";
+    Checks.is("by the first", Checks.valley(ends).trespasses(0, 9, 0), 9);
+    Checks.is("by the last", Checks.valley(ends).trespasses(5, 9, 0), 9);
+    Checks.is("on the first's", Checks.valley(ends).trespasses(0, 9, 1), 9);
+    Checks.is("on the last's", Checks.valley(ends).trespasses(5, 9, 1), 9);
+    Checks.is("on another's", Checks.valley(ends).trespasses(1, 9, 1), 0);
     SongFields x = Checks.valley(PAYS);
     x.hours(10);
     x.sell(1, -1);
@@ -182,6 +189,7 @@ public final class BoundsAheadTest {
     Checks.is("of one alone", Checks.valley(FIELD).count(2), 0);
     Checks.is("of one alone", Checks.valley(FIELD + "singer 0;").lost(0), 0);
     Checks.noSuch("no singer", () -> x.lost(2));
+    Checks.is("the first tune", Checks.valley(FIELD.repeat(2) + "singer 1;singer 1;knows 1 0;sings 0;").lost(1), 1);
     // All eight, of which the others know but their own.
     String all = FIELD.repeat(8) + "singer 0;singer 0;";
     for (int f = 1; f < 8; f++) {
@@ -278,6 +286,7 @@ public final class BoundsAheadTest {
     Checks.is("of five", y.field(5, 4), 4);
     Checks.is("none of itself", Checks.valley(FIELD).field(0, 4), 0);
     Checks.sentence("THIRDS of a TUNE: TUNES that are a third lower than it (bits).");
+    Checks.is("the first and the last", Checks.valley("field 1 9 9;" + FIELD.repeat(6) + "field 1 9 9;").field(3, 4), 129);
     SongFields all = Checks.valley("field 1 1 1;" + "field 1 9 9;".repeat(7));
     Checks.is("seven", all.field(0, 4), 254);
     Checks.is("of those none", all.field(7, 4), 0);
@@ -326,6 +335,17 @@ public final class BoundsAheadTest {
     Checks.is("one more", Checks.valley(FIELD.repeat(3) + "path 0 1 10;path 1 2 11;path 0 2 20;").far(0, 2), 20);
     Checks.noSuch("no field", () -> x.far(3, 0));
     Checks.noSuch("no other", () -> x.far(0, 3));
+    // The shortest way may lead by any field, the first and the last as well.
+    for (int by = 0; by < 8; by++) {
+      StringBuilder star = new StringBuilder(FIELD.repeat(8));
+      for (int f = 0; f < 8; f++) {
+        star.append(f == by ? "" : "path " + by + " " + f + " " + (f + 1) + ";");
+      }
+      SongFields s = Checks.valley(star.toString());
+      int one = by == 2 ? 3 : 2;
+      int other = by == 6 ? 5 : 6;
+      Checks.is("by " + by, s.far(one, other), one + other + 2);
+    }
     // The longest that there is: eight in a row.
     String row = FIELD.repeat(8);
     for (int f = 0; f < 7; f++) {

@@ -529,6 +529,8 @@ public final class BoundsHeardTest {
 
   private static void withoutFieldsOrSingers() {
     Checks.sentence("(Without FIELDS, or without SINGERS, nothing is drawn.)");
+    Checks.is("one singer is drawn", Checks.valley(FIELD.repeat(8) + "singer 0;").larks(7, 60, 0), 8);
+    Checks.is("one field is drawn", Checks.valley(FIELD + "singer 0;".repeat(6)).larks(7, 60, 0), 6);
     int[] hours = {0, 1, 60};
     for (int n : hours) {
       for (int what = 0; what <= 2; what++) {
@@ -582,8 +584,8 @@ public final class BoundsHeardTest {
     }
   }
 
-  private static void imageKeeps() {
-    Checks.sentence("AN IMAGE keeps all that HOURS and ACTS change, ACTS that are kept, what is HEARD, STATUS.");
+  /** Three acts, one heard, one of each kind refused, and an image of that. */
+  private static SongFields imaged() {
     SongFields x = Checks.valley(Checks.TWO_WITH_RULES);
     x.load(0, 1, 2);
     x.hours(3);
@@ -592,29 +594,56 @@ public final class BoundsHeardTest {
     x.hours(0);
     x.hear(0, 0, 0);
     Checks.tell(x, "@");
-    String look = Twins.look(x);
     x.image();
+    return x;
+  }
+
+  private static void imageKeeps() {
+    Checks.sentence("AN IMAGE keeps all that HOURS and ACTS change, ACTS that are kept, what is HEARD, STATUS.");
+    String look = Twins.look(imaged());
     Twins.Call[] after = {
       y -> y.hours(30), y -> y.teach(1, 0) ? 1 : 0, y -> y.load(0, 0, 9), y -> y.change(0, 0, 1), y -> y.sell(1, 0) ? 1 : 0,
       y -> y.undo(), y -> y.hear(0, 1, 0), y -> y.hours(0), y -> y.hear(0, 0, 0), y -> Checks.tell(y, "@"),
       y -> { y.forget(); return 0; }
     };
+    SongFields all = imaged();
     for (Twins.Call call : after) {
-      call.on(x);
-      Checks.is("restored", x.restore(), true);
-      Checks.is("all", Twins.look(x), look);
-      Checks.is("status", Twins.status(x), "1 1 1");
+      SongFields one = imaged();
+      call.on(one);
+      call.on(all);
+      Checks.is("restored", one.restore(), true);
+      Checks.is("all", Twins.look(one), look);
+      Checks.is("status", Twins.status(one), "1 1 1");
     }
-    for (Twins.Call call : after) {
-      call.on(x);
+    Checks.is("restored from all", all.restore(), true);
+    Checks.is("all", Twins.look(all), look);
+    Checks.is("status", Twins.status(all), "1 1 1");
+    Checks.is("its acts can be undone", all.undo(), 2);
+    Checks.is("nobody's", all.field(0, 2), -1);
+    Checks.is("and so on", all.undo(), 1);
+    Checks.is("hour 0", all.count(3), 0);
+    // What is heard is as it was in each of its parts: field, hour, tune.
+    SongFields heard = Checks.valley("field 1 1 1;field 1 2 2;singer 0 1;knows 0 1;");
+    int[][] others = {{1, 1, 0}, {0, 2, 0}, {0, 1, 1}, {0, 1, -1}};
+    heard.hear(0, 1, 0);
+    heard.image();
+    for (int[] other : others) {
+      heard.forget();
+      heard.hear(other[0], other[1], other[2]);
+      Checks.is("not so", heard.otherwise(2), 0);
+      heard.restore();
+      Checks.is("so again", heard.otherwise(2), 1);
     }
-    Checks.is("restored from all", x.restore(), true);
-    Checks.is("all", Twins.look(x), look);
-    Checks.is("status", Twins.status(x), "1 1 1");
-    Checks.is("its acts can be undone", x.undo(), 2);
-    Checks.is("nobody's", x.field(0, 2), -1);
-    Checks.is("and so on", x.undo(), 1);
-    Checks.is("hour 0", x.count(3), 0);
+    for (int[] other : others) {
+      heard.forget();
+      heard.hear(other[0], other[1], other[2]);
+      heard.image();
+      heard.forget();
+      heard.hear(0, 1, 0);
+      Checks.is("so", heard.otherwise(2), 1);
+      heard.restore();
+      Checks.is("not so again", heard.otherwise(2), 0);
+    }
     // All forty, though others took their slots since.
     int[] many = {39, 40, 41};
     for (int m : many) {

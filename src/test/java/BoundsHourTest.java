@@ -689,28 +689,31 @@ public final class BoundsHourTest {
     Checks.noSuch("no field", () -> x.sell(-1, -1) ? 1 : 0);
   }
 
+  /** The first so many of six acts, one of each kind and hours twice. */
+  private static SongFields withActs(int many) {
+    SongFields x = Checks.valley(Checks.TWO_WITH_RULES);
+    Twins.Call[] acts = {
+      y -> y.load(0, 1, 2), y -> y.hours(3), y -> y.sell(1, 0) ? 1 : 0, y -> y.teach(1, 0) ? 1 : 0, y -> y.change(0, 0, 1), y -> y.hours(30)
+    };
+    for (int i = 0; i < many; i++) {
+      acts[i].on(x);
+      Checks.is("acts", x.count(5), i + 1);
+    }
+    return x;
+  }
+
   private static void undone() {
     Checks.sentence("They are UNDONE, the last one first.");
-    SongFields x = Checks.valley(Checks.TWO_WITH_RULES);
-    String[] looks = new String[8];
-    looks[0] = Twins.look(x);
-    x.load(0, 1, 2);
-    looks[1] = Twins.look(x);
-    x.hours(3);
-    looks[2] = Twins.look(x);
-    x.sell(1, 0);
-    looks[3] = Twins.look(x);
-    x.teach(1, 0);
-    looks[4] = Twins.look(x);
-    x.change(0, 0, 1);
-    looks[5] = Twins.look(x);
-    x.hours(30);
-    for (int left = 5; left >= 0; left--) {
-      Checks.is("left", x.undo(), left);
-      Checks.is("as it was", Twins.look(x), looks[left]);
+    for (int left = 0; left <= 6; left++) {
+      SongFields x = withActs(6);
+      for (int i = 5; i >= left; i--) {
+        Checks.is("left", x.undo(), i);
+      }
+      Checks.is("as it was behind " + left, Twins.look(x), Twins.look(withActs(left)));
     }
-    Checks.is("no more", x.undo(), -1);
-    Checks.is("as it was", Twins.look(x), looks[0]);
+    SongFields none = withActs(0);
+    Checks.is("no more", none.undo(), -1);
+    Checks.is("as it was", Twins.look(none), Twins.look(withActs(0)));
     Checks.sentence("`int undo()`: The last ACT is UNDONE: how many are left. NONE: there is none.");
     SongFields y = Checks.valley(Checks.TWO_WITH_RULES);
     y.hours(0);

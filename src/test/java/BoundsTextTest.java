@@ -17,8 +17,10 @@ public final class BoundsTextTest {
     placeOfTheFault();
     emptyText();
     fullText();
+    oneAfterAnother();
     everyByte();
     longestRow();
+    eachLetter();
     blanks();
     digits();
     acres();
@@ -202,12 +204,6 @@ public final class BoundsTextTest {
 
   private static void allStays() {
     Checks.sentence("or the FAULT (all stays, but STATUS).");
-    SongFields x = Checks.valley(TWO + "path 0 1 1;singer 0 1;singer 1;knows 0 1;owns 1 0;owns 0 1;sings 1;fines 9;");
-    x.hours(1);
-    x.hear(0, 1, 0);
-    x.image();
-    x.hours(2);
-    String ahead = Twins.look(x);
     // Each kind of line is told ahead of the fault: none of it comes.
     String[] texts = {
       "@", FIELD.repeat(7) + "field 1", FIELD + "singer 0;path 0", TWO + "path 0 1 2;singer 1;knows 0 0;owns 0 0;sings 0;fines 5;sings",
@@ -215,15 +211,24 @@ public final class BoundsTextTest {
     };
     int[] kinds = {1, 1, 1, 5, 2, 2};
     for (int i = 0; i < texts.length; i++) {
-      Checks.is("a fault", Checks.tell(x, texts[i]), kinds[i]);
-      Checks.is("all stays", Twins.look(x), ahead);
-      Checks.is("but STATUS", x.count(8), i + 1);
+      SongFields x = Checks.valley(TWO + "path 0 1 1;singer 0 1;singer 1;knows 0 1;owns 1 0;owns 0 1;sings 1;fines 9;");
+      x.hours(1);
+      x.hear(0, 1, 0);
+      x.image();
+      x.hours(2);
+      String ahead = Twins.look(x);
+      for (int again = 1; again <= 2; again++) {
+        Checks.is("a fault", Checks.tell(x, texts[i]), kinds[i]);
+        Checks.is("all stays", Twins.look(x), ahead);
+        Checks.is("but STATUS", x.count(8), again);
+      }
+      Checks.is("the acts stay", x.undo(), 1);
+      Checks.is("hour 1", x.count(3), 1);
+      x.hours(9);
+      Checks.is("the image stays", x.restore(), true);
+      Checks.is("hour 1", x.count(3), 1);
+      Checks.is("as many as then", x.count(8), 0);
     }
-    Checks.is("the acts stay", x.undo(), 1);
-    Checks.is("hour 1", x.count(3), 1);
-    Checks.is("the image stays", x.restore(), true);
-    Checks.is("hour 1", x.count(3), 1);
-    Checks.is("as many as then", x.count(8), 0);
   }
 
   private static void placeOfTheFault() {
@@ -287,6 +292,25 @@ public final class BoundsTextTest {
     Checks.is("the last of them", Checks.valley(long1.toString()).purse(1, 1), 7);
   }
 
+  private static void oneAfterAnother() {
+    Checks.sentence("are a VALLEY, all anew: 0,");
+    String full = paths(14) + "singer 0 1 2 3 4 5;".repeat(6) + "knows 0 7;owns 5 7;sings (((((1)))));fines (((((2)))));";
+    SongFields x = new SongFields();
+    for (int i = 0; i < 4; i++) {
+      Checks.is("as much as there can be, again", Checks.tell(x, full), 0);
+      Checks.is("paths", x.count(1), 14);
+      // Faults in all places where something waits: nothing of it waits on.
+      Checks.is("open", Checks.tell(x, "sings (((((1 or not 1<2+3*@"), 1);
+      Checks.is("too deep", Checks.tell(x, "fines ((((((far"), 2);
+      Checks.is("not", Checks.tell(x, "sings not not not not not not not 1"), 2);
+      Checks.is("it is closed by nothing", Checks.tell(x, "sings 1);"), 1);
+      Checks.is("place", x.fault(), 7);
+      Checks.is("a test may stand again", Checks.tell(x, "sings 1<2;"), 0);
+      Checks.is("six nots, too", Checks.tell(x, "sings not not not not not not 1;"), 0);
+      Checks.is("no fields", x.count(0), 0);
+    }
+  }
+
   private static String sign(int b) {
     return String.valueOf((char) b);
   }
@@ -335,6 +359,33 @@ public final class BoundsTextTest {
     Checks.stands("sings 1and 1or 0;");
     Checks.stands("sings not(1)or(hour)and(0);");
     Checks.stands("field1 1 1;field1 1 1;singer0;knows0 1;owns0 1;path0 1 1;");
+  }
+
+  /** Each letter of each word counts: with another one in its place it is another word. */
+  private static void eachLetter() {
+    Checks.sentence("In quotes is what stands there");
+    String[] words = {"field", "path", "singer", "knows", "owns", "sings", "fines"};
+    for (String word : words) {
+      for (int i = 0; i < word.length(); i++) {
+        fault(word.substring(0, i) + "q" + word.substring(i + 1) + " 1 1 1;", 1, 0);
+        fault(word.substring(0, i) + "F" + word.substring(i + 1) + " 1 1 1;", 1, 0);
+        fault(word.substring(0, i) + word.substring(i + 1) + " 1 1 1;", 1, 0);
+      }
+    }
+    String[] values = {"hour", "singer", "field", "known", "purse", "not 1", "far", "acres", "notes", "hearers"};
+    for (int v = 0; v < values.length; v++) {
+      String ahead = v < 6 ? "sings " : "fines ";
+      Checks.stands(ahead + values[v] + ";");
+      for (int i = 0; i < values[v].replace(" 1", "").length(); i++) {
+        fault(ahead + values[v].substring(0, i) + "q" + values[v].substring(i + 1) + ";", 3, 6);
+      }
+    }
+    String[] joins = {"and", "or"};
+    for (String join : joins) {
+      for (int i = 0; i < join.length(); i++) {
+        fault("sings 1 " + join.substring(0, i) + "q" + join.substring(i + 1) + " 1;", 1, 8);
+      }
+    }
   }
 
   private static void blanks() {
@@ -925,6 +976,13 @@ public final class BoundsTextTest {
     Checks.is("known 8", Checks.valley(eight + "sings known-1;").sung(0, 1), 7);
     Checks.is("known 2", Checks.valley(eight + "sings known-2;").sung(1, 1), 0);
     Checks.is("purse 0", Checks.valley(eight + "sings purse+3;").sung(0, 1), 3);
+    // The last of six pays 1 in the first hour: its purse is its own, in SINGS and in FINES.
+    String six = FIELD.repeat(3) + "singer 0;".repeat(5) + "singer 1;owns 0 0;knows 5 0;knows 5 2;fines 1-5*purse;";
+    SongFields last = Checks.valley(six + "sings 0-2*purse*(singer=5);");
+    Checks.is("no purse yet", last.sung(5, 1), 0);
+    Checks.is("a purse of -1", last.sung(5, 2), 2);
+    Checks.is("of the last alone", last.purse(5, 1), -1);
+    Checks.is("in FINES, too", Checks.valley(six + "sings 0;").purse(5, 2), -1 - 6);
     Checks.sentence("(STEPS of the shortest way between that FIELD and the TUNE's; 99, if there is none)");
     gives("far", 6);
     gives("acres", 9);

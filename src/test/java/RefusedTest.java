@@ -351,7 +351,8 @@ public final class RefusedTest {
   }
 
   private static SongFields atLastHour() {
-    SongFields x = three();
+    SongFields x = new SongFields();
+    Checks.tell(x, "field 10 0 2;field 20 8 0;singer 0 1;knows 0 1;sings hour;");
     for (int i = 0; i < 333; i++) {
       x.hours(30);
     }
@@ -378,20 +379,21 @@ public final class RefusedTest {
     }
     Checks.sentence("or the FAULT (all stays, but STATUS).");
     SongFields one = made.get();
-    String ahead = Twins.look(one);
-    int refused = one.count(8);
+    SongFields two = made.get();
     Checks.is("cut in the second field", one.valley(20), 1);
     Checks.is("at its end", one.fault(), 20);
-    Checks.is("a text is refused", one.count(8), refused + 1);
-    Checks.is("acts are not", one.count(9), made.get().count(9));
-    Checks.is("what is heard is not", one.count(10), made.get().count(10));
-    Checks.is("all else", Twins.look(one), ahead);
+    Checks.is("a text is refused", one.count(8), two.count(8) + 1);
+    Checks.is("acts are not", one.count(9), two.count(9));
+    Checks.is("what is heard is not", one.count(10), two.count(10));
+    Checks.is("all else", Twins.look(one), Twins.look(two));
     Checks.is("the tape is empty", one.count(7), 0);
-    SongFields two = made.get();
-    Checks.is("all is undone", one.undo() == two.undo() && one.undo() == two.undo(), true);
+    for (int i = 0; i < 8; i++) {
+      Checks.is("undone alike", one.undo(), two.undo());
+    }
     Checks.is("alike", Twins.look(one), Twins.look(two));
     Checks.is("restored", one.restore() && two.restore(), true);
     Checks.is("alike", Twins.look(one), Twins.look(two));
+    Checks.is("status, too", Twins.status(one), Twins.status(two));
   }
 
   /** What only asks, and what finds nothing to do, changes nothing. */

@@ -29,25 +29,27 @@ final class Twins {
       all.append(' ').append(x.otherwise(what));
     }
     all.append(' ').append(x.listen(0)).append(' ').append(x.listen(1));
-    for (int f = 0; f < x.count(0); f++) {
+    int fields = x.count(0);
+    int singers = x.count(2);
+    for (int f = 0; f < fields; f++) {
       all.append(" | field ").append(f);
       for (int what = 0; what <= 5; what++) {
         all.append(' ').append(x.field(f, what));
       }
-      for (int i = 0; i < x.field(f, 1); i++) {
+      for (int i = 0, notes = x.field(f, 1); i < notes; i++) {
         all.append(' ').append(x.note(f, i));
       }
       all.append(' ').append(x.round(f)).append(' ').append(x.far(0, f));
     }
-    for (int s = 0; s < x.count(2); s++) {
+    for (int s = 0; s < singers; s++) {
       all.append(" | singer ").append(s);
       for (int what = 0; what <= 5; what++) {
         all.append(' ').append(x.singer(s, what));
       }
-      for (int i = 0; i < x.singer(s, 0); i++) {
+      for (int i = 0, places = x.singer(s, 0); i < places; i++) {
         all.append(' ').append(x.way(s, i));
       }
-      for (int f = 0; f < x.count(0); f++) {
+      for (int f = 0; f < fields; f++) {
         all.append(' ').append(x.earth(s, f));
       }
       all.append(' ').append(x.sung(s, 2)).append(' ').append(x.purse(s, 5)).append(' ').append(x.trespasses(s, 5, 1));
