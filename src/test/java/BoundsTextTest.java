@@ -305,7 +305,8 @@ public final class BoundsTextTest {
       Checks.is("not", Checks.tell(x, "sings not not not not not not not 1"), 2);
       Checks.is("it is closed by nothing", Checks.tell(x, "sings 1);"), 1);
       Checks.is("place", x.fault(), 7);
-      Checks.is("a test may stand again", Checks.tell(x, "sings 1<2;"), 0);
+      Checks.is("a test that waits", Checks.tell(x, "sings 1<@"), 1);
+      Checks.is("another may stand", Checks.tell(x, "sings 1<2;"), 0);
       Checks.is("six nots, too", Checks.tell(x, "sings not not not not not not 1;"), 0);
       Checks.is("no fields", x.count(0), 0);
     }
