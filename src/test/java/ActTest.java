@@ -4,6 +4,7 @@ public final class ActTest {
     hours();
     songs();
     fines();
+    finesFromElsewhere();
     teaching();
     loading();
     changing();
@@ -127,6 +128,25 @@ public final class ActTest {
     SongFields own = Checks.valley("field 5 1 2;field 9 3 4;singer 0;knows 0 1;owns 0 1;sings 1;");
     own.hours(2);
     Checks.is("no trespass on one's own", own.count(4), 0);
+  }
+
+  private static void finesFromElsewhere() {
+    Checks.sentence("STEPS of the shortest way between that FIELD and the TUNE's; 99, if there is none");
+    // 0 is in field 2 and sings 0, 1, 2, 3 in turn: 7 steps off, 4 steps off, one's own, no way at all.
+    SongFields x = Checks.valley(
+        "field 5 1 2;field 6 3 4;field 7 5 6;field 8 7 8;path 0 1 3;path 1 2 4;singer 2;singer 0;"
+            + "knows 0 0;knows 0 1;knows 0 3;owns 1 0;owns 1 1;owns 1 2;owns 1 3;sings hour;");
+    int[] paid = {0, 7, 11, 11, 110, 117};
+    for (int h = 0; h < paid.length; h++) {
+      Checks.is("paid behind " + h, x.purse(0, h), -paid[h]);
+      Checks.is("had behind " + h, x.purse(1, h), paid[h]);
+    }
+    Checks.is("trespasses", x.trespasses(0, 5, 0), 4);
+    // The way there and the way back are as far: who is in 0 and sings 2 pays as much as 0 did.
+    SongFields y = Checks.valley(
+        "field 5 1 2;field 6 3 4;field 7 5 6;path 0 1 3;path 1 2 4;singer 0 1;singer 2;knows 0 2;owns 1 2;sings 2;");
+    Checks.is("from 0", y.purse(0, 1), -7);
+    Checks.is("from 0, from 1", y.purse(0, 2), -11);
   }
 
   private static void teaching() {

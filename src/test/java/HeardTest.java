@@ -141,5 +141,14 @@ public final class HeardTest {
         "field 1 1 1;field 1 2 2;field 1 3 3;field 1 4 4;singer 3;singer 2;knows 0 2;knows 1 3;sings 3-singer;");
     Checks.is("in 0 are 3, 2 and none", y.listen(1), 3);
     Checks.is("field 0", y.listen(0), 0);
+    // Of eight fields nothing is sung in 0, in each of the others its tune or none.
+    SongFields eight = Checks.valley(
+        "field 1 1 1;".repeat(8) + "singer 0;knows 0 1;knows 0 2;knows 0 3;knows 0 4;knows 0 5;knows 0 6;knows 0 7;");
+    Checks.is("seven steps", eight.otherwise(0), 7);
+    Checks.is("the least of like ones", eight.listen(0), 1);
+    Checks.is("its tune or none", eight.listen(1), 2);
+    eight.hear(7, 1, 7);
+    Checks.is("one step", eight.otherwise(1), 7);
+    Checks.is("all alike", eight.listen(0), 0);
   }
 }

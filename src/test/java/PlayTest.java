@@ -120,6 +120,10 @@ public final class PlayTest {
     Checks.is("without singers", none.larks(1, 60, 1), 0);
     Checks.is("without singers", none.larks(1, 60, 2), 0);
     Checks.is("without fields", new SongFields().larks(1, 60, 2), 0);
+    SongFields six = Checks.valley("field 1 1 1;field 1 2 2;" + "singer 0;".repeat(6));
+    six.load(0, 0, 9);
+    Checks.is("a barrow is no purse", six.larks(1, 0, 2), 0);
+    Checks.is("six know one each", six.larks(1, 0, 0), 6);
   }
 
   private static void wrongLarks() {

@@ -23,6 +23,19 @@ public final class SurveyTest {
     Checks.noSuch("no field", () -> x.common(6, 0));
     Checks.noSuch("no other", () -> x.common(0, 6));
     Checks.noSuch("below", () -> x.common(-1, 0));
+    // Eight tunes of six notes, each one note on, and rounds and heirs between: no call is in another's way.
+    SongFields full = Checks.valley(
+        "field 1 0 1 2 3 4 5;field 1 1 2 3 4 5 6;field 1 2 3 4 5 6 7;field 1 3 4 5 6 7 8;"
+            + "field 1 4 5 6 7 8 9;field 1 5 6 7 8 9 0;field 1 6 7 8 9 0 1;field 1 7 8 9 0 1 2;path 0 1 2;");
+    for (int f = 0; f < 8; f++) {
+      for (int g = 0; g < 8; g++) {
+        int on = Math.abs(f - g);
+        Checks.is("no round from " + f, full.round(f), -1);
+        Checks.is("common " + f + " " + g, full.common(f, g), on == 7 ? 3 : on == 6 ? 2 : 6 - on);
+        Checks.is("heirs", full.heirs(3), 3);
+      }
+    }
+    Checks.is("nearest", full.nearest(), 1);
   }
 
   private static void nearest() {
